@@ -238,12 +238,15 @@ public final class CompassRolls {
         }
         for (int gone = 0; gone < minutes; gone++) {
             now++;
-            rescue.freeCars(now);
+            boolean freed = rescue.freeCars(now);
             if (now % DAY == 0) {
                 depot.returnOverdue(now);
                 depot.deliver(directory, places, now);
             }
-            rescue.sendCars(places, now);
+            // Behind the first minute, calls that wait still do until a car is free again.
+            if (freed || gone == 0) {
+                rescue.sendCars(places, now);
+            }
         }
         return now;
     }
@@ -570,8 +573,8 @@ public final class CompassRolls {
             int found = NONE;
             int latest = NONE;
             for (int i = 0; i < streets && i < bearings.length; i++) {
-                int ceased = lastCeased(bearings[i], name);
-                if (ceased > latest && placeAt(i, number) != NONE) {
+                int ceased = placeAt(i, number) == NONE ? NONE : lastCeased(bearings[i], name);
+                if (ceased > latest) {
                     latest = ceased;
                     found = i;
                 }
@@ -677,15 +680,19 @@ public final class CompassRolls {
             }
         }
 
-        void freeCars(int now) {
+        /** Frees the cars whose time has come, and returns whether there was one. */
+        boolean freeCars(int now) {
+            boolean freed = false;
             for (int i = 0; i < cars; i++) {
                 Car car = carRows[i];
                 Call call = car.call;
                 if (call != null && car.freeAt <= now) {
                     call.state = DONE;
                     car.call = null;
+                    freed = true;
                 }
             }
+            return freed;
         }
 
         void sendCars(Places places, int now) {
