@@ -17,20 +17,6 @@ final class CarsTest {
         CHECK.end();
     }
 
-    /** Places 0, 1, 2 in a row, 5 and 3 minutes apart; 3 with no way. Street i, named i, is at place i. */
-    private static CompassRolls town() {
-        CompassRolls x = new CompassRolls();
-        for (int i = 0; i < 4; i++) {
-            x.place();
-            x.street();
-            x.span(i, 1, 99, i);
-            x.name(i, i);
-        }
-        x.join(0, 1, 5);
-        x.join(1, 2, 3);
-        return x;
-    }
-
     private static void call(CompassRolls x, int call, int... want) {
         for (int what = 0; what < want.length; what++) {
             CHECK.due("ofCall(" + call + ", " + what + ")", want[what], x.ofCall(call, what));
@@ -44,7 +30,7 @@ final class CarsTest {
     }
 
     private static void cars() {
-        CompassRolls x = town();
+        CompassRolls x = Town.built();
         for (int i = 0; i < 6; i++) {
             CHECK.due("free cars", i, x.count(2));
             CHECK.due("car", i, x.car(i % 4));
@@ -56,7 +42,7 @@ final class CarsTest {
     }
 
     private static void oneCall() {
-        CompassRolls x = town();
+        CompassRolls x = Town.built();
         x.car(0);
         CHECK.due("call", 0, x.call(2, 99));
         call(x, 0, CompassRolls.SENT, 2, 2, 0, 8, 0);
@@ -81,7 +67,7 @@ final class CarsTest {
     }
 
     private static void oldName() {
-        CompassRolls x = town();
+        CompassRolls x = Town.built();
         x.car(0);
         x.pass(3);
         x.name(1, 9);
@@ -98,7 +84,7 @@ final class CarsTest {
     }
 
     private static void nearestCar() {
-        CompassRolls x = town();
+        CompassRolls x = Town.built();
         x.car(3);
         x.car(0);
         x.car(2);
@@ -121,7 +107,7 @@ final class CarsTest {
     }
 
     private static void waiting() {
-        CompassRolls x = town();
+        CompassRolls x = Town.built();
         x.call(0, 1);
         x.call(1, 1);
         x.call(3, 1);
@@ -149,7 +135,7 @@ final class CarsTest {
     }
 
     private static void doubts() {
-        CompassRolls x = town();
+        CompassRolls x = Town.built();
         x.name(2, 1);
         x.name(3, 11);
         x.call(1, 7);
@@ -183,7 +169,7 @@ final class CarsTest {
 
     /** A call goes by what its name led to when it was told. */
     private static void toldNames() {
-        CompassRolls x = town();
+        CompassRolls x = Town.built();
         x.call(1, 5);
         x.call(8, 5);
         x.name(1, 8);
@@ -197,7 +183,7 @@ final class CarsTest {
     }
 
     private static void doubtsGone() {
-        CompassRolls x = town();
+        CompassRolls x = Town.built();
         x.name(2, 1);
         x.span(1, 200, 300, 0);
         x.call(1, 7);
@@ -221,7 +207,7 @@ final class CarsTest {
     }
 
     private static void limits() {
-        CompassRolls x = town();
+        CompassRolls x = Town.built();
         for (int i = 0; i < 40; i++) {
             CHECK.due("call", i, x.call(i % 5, 1));
         }
@@ -239,7 +225,7 @@ final class CarsTest {
     }
 
     private static void wrongInputs() {
-        CompassRolls x = town();
+        CompassRolls x = Town.built();
         x.name(2, 1);
         x.call(1, 1);
         x.car(0);

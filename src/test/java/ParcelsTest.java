@@ -17,20 +17,6 @@ final class ParcelsTest {
         CHECK.end();
     }
 
-    /** Places 0, 1, 2 in a row, 5 and 3 minutes apart; 3 with no way. Street i, named i, is at place i. */
-    private static CompassRolls town() {
-        CompassRolls x = new CompassRolls();
-        for (int i = 0; i < 4; i++) {
-            x.place();
-            x.street();
-            x.span(i, 1, 99, i);
-            x.name(i, i);
-        }
-        x.join(0, 1, 5);
-        x.join(1, 2, 3);
-        return x;
-    }
-
     private static void parcel(CompassRolls x, int parcel, int... want) {
         for (int what = 0; what < want.length; what++) {
             CHECK.due("ofParcel(" + parcel + ", " + what + ")", want[what], x.ofParcel(parcel, what));
@@ -44,7 +30,7 @@ final class ParcelsTest {
     }
 
     private static void lockers() {
-        CompassRolls x = town();
+        CompassRolls x = Town.built();
         for (int i = 0; i < 6; i++) {
             CHECK.due("locker", i, x.locker(i % 4, i, 9 - i, 9));
         }
@@ -57,7 +43,7 @@ final class ParcelsTest {
     }
 
     private static void oneParcel() {
-        CompassRolls x = town();
+        CompassRolls x = Town.built();
         x.locker(0, 1, 1, 1);
         CHECK.due("post", 0, x.post(0, 1, 0));
         parcel(x, 0, CompassRolls.POSTED, NONE, NONE, 0);
@@ -83,7 +69,7 @@ final class ParcelsTest {
     }
 
     private static void nearestLocker() {
-        CompassRolls x = town();
+        CompassRolls x = Town.built();
         x.locker(3, 9, 9, 9);
         x.locker(0, 9, 9, 9);
         x.locker(2, 1, 0, 0);
@@ -102,7 +88,7 @@ final class ParcelsTest {
     }
 
     private static void compartments() {
-        CompassRolls x = town();
+        CompassRolls x = Town.built();
         x.locker(0, 1, 1, 1);
         for (int size : new int[] {0, 0, 2, 1, 1, 0, 2}) {
             x.post(0, 1, size);
@@ -132,7 +118,7 @@ final class ParcelsTest {
     }
 
     private static void numbersAndDays() {
-        CompassRolls x = town();
+        CompassRolls x = Town.built();
         x.locker(0, 0, 0, 1);
         x.name(2, 0);
         x.post(0, 1, 0);
@@ -154,7 +140,7 @@ final class ParcelsTest {
     }
 
     private static void sentOn() {
-        CompassRolls x = town();
+        CompassRolls x = Town.built();
         x.locker(0, 9, 0, 0);
         x.post(0, 1, 0);
         x.post(1, 1, 0);
@@ -186,7 +172,7 @@ final class ParcelsTest {
     }
 
     private static void returned() {
-        CompassRolls x = town();
+        CompassRolls x = Town.built();
         x.locker(0, 1, 0, 0);
         x.post(0, 1, 0);
         x.post(0, 2, 0);
@@ -211,7 +197,7 @@ final class ParcelsTest {
     }
 
     private static void limits() {
-        CompassRolls x = town();
+        CompassRolls x = Town.built();
         for (int i = 0; i < 40; i++) {
             CHECK.due("post", i, x.post(i % 30, 1, i % 3));
         }
@@ -223,7 +209,7 @@ final class ParcelsTest {
     }
 
     private static void wrongInputs() {
-        CompassRolls x = town();
+        CompassRolls x = Town.built();
         x.locker(0, 1, 1, 1);
         x.post(0, 1, 0);
         for (int wrong : new int[] {-1, 4, Integer.MIN_VALUE, Integer.MAX_VALUE}) {
