@@ -24,6 +24,11 @@ final class Check {
         due(call, want ? 1 : 0, got ? 1 : 0);
     }
 
+    /** The next value beyond each end of a range, and the farthest ones. */
+    static int[] beyond(int least, int greatest) {
+        return new int[] {least - 1, greatest + 1, Integer.MIN_VALUE, Integer.MAX_VALUE};
+    }
+
     void outOfBounds(String call, Asked asked) {
         throwing(call, IndexOutOfBoundsException.class, asked);
     }
